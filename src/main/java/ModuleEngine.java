@@ -367,7 +367,7 @@ public final class ModuleEngine {
       for (int kind = 0; kind < 4; kind++) {
         long[] space = new long[imported(kind) * ENTRY];
         int filled = 0;
-        for (int i = 0; i + ENTRY <= imports.length; i += ENTRY) {
+        for (int i = 0; i + ENTRY <= imports.length && filled + ENTRY <= space.length; i += ENTRY) {
           if (imports[i] != kind) continue;
           System.arraycopy(imports, i, space, filled, ENTRY);
           filled += ENTRY;
@@ -425,7 +425,8 @@ public final class ModuleEngine {
     }
 
     int of(int row, int what) {
-      return item(code, row * ROW + what);
+      int at = row * ROW + what;
+      return at >= 0 && at < code.length ? code[at] : 0;
     }
 
     void aim(int row, int target) {
@@ -643,7 +644,7 @@ public final class ModuleEngine {
       rows = count;
       if (count > KEPT) exceedLimit();
       // Each row has at least one byte: a count beyond that is a fault to come.
-      int kept = (int) Math.min(count, end - at);
+      int kept = (int) Math.max(0, Math.min(count, end - at));
       if (id >= 3 && id <= 6) {
         ownBefore = module.count(id - 3);
         module.setSpace(id - 3, Arrays.copyOf(module.space(id - 3), (ownBefore + kept) * Module.ENTRY));
@@ -1142,7 +1143,8 @@ public final class ModuleEngine {
       for (int n = 0; n < module.bytes.length && labelCount > 0 && fault == 0; n++) {
         in.instruction();
         sizeBefore = size;
-        checkInstruction(in.op);
+        if (in.op <= 17) control(in.op);
+        else other(in.op);
         if (labelCount > 0) most = Math.max(most, size);
       }
       body.slots = localCount;
@@ -1232,10 +1234,6 @@ public final class ModuleEngine {
       putTypes(shape, 2, item(shape, 0));
     }
 
-    private void takeResults(int[] shape) {
-      takeTypes(shape, 2 + item(shape, 0), item(shape, 1));
-    }
-
     private void putResults(int[] shape) {
       putTypes(shape, 2 + item(shape, 0), item(shape, 1));
     }
@@ -1286,16 +1284,16 @@ public final class ModuleEngine {
       if (second != 0) take(second);
       if (third != 0) take(third);
       if (result != 0) put(result);
-      emitPlain((first != 0 ? 1 : 0) + (second != 0 ? 1 : 0) + (third != 0 ? 1 : 0), result != 0);
+      int takes = (first != 0 ? 1 : 0) + (second != 0 ? 1 : 0) + (third != 0 ? 1 : 0);
+      emit(in.op, (int) in.first, (int) in.second, 2 * takes + (result != 0 ? 1 : 0));
     }
 
     private void emitPlain(int takes, boolean puts) {
       emit(in.op, (int) in.first, (int) in.second, 2 * takes + (puts ? 1 : 0));
     }
 
-    private void checkInstruction(int op) {
-      if (op <= 17) control(op);
-      else if (op <= 28) choice(op);
+    private void other(int op) {
+      if (op <= 28) choice(op);
       else if (op <= 36) variable(op);
       else if (op >= 40 && op <= 64) memoryAccess(op);
       else if (op >= 69 && op < 208) operator(op);
@@ -1345,7 +1343,8 @@ public final class ModuleEngine {
     }
 
     private void takeAllResults(int label) {
-      takeResults(shapeOfLabel(label));
+      int[] shape = shapeOfLabel(label);
+      takeTypes(shape, 2 + item(shape, 0), item(shape, 1));
       if (size != label(label, LABEL_HEIGHT)) fail(29);
     }
 
@@ -2089,13 +2088,13 @@ public final class ModuleEngine {
     }
 
     void fill(int number, long to, int v, long length) {
-      long end = to + length;
-      for (long at = to; at < end; ) {
-        int part = (int) Math.min(end - at, leftOfPage(number, at));
+      long done = 0;
+      for (int i = 0; i < 2 * MOST_PAGES && done < length; i++) {
+        int part = (int) Math.min(length - done, leftOfPage(number, to + done));
         if (part <= 0) return;
-        int from = (int) (at & PAGE - 1);
-        Arrays.fill(pages[pageOf(number, at)], from, from + part, (byte) v);
-        at += part;
+        int from = (int) (to + done & PAGE - 1);
+        Arrays.fill(pages[pageOf(number, to + done)], from, from + part, (byte) v);
+        done += part;
       }
     }
 
@@ -2174,7 +2173,9 @@ public final class ModuleEngine {
     }
 
     void fill(int number, long to, int reference, long length) {
-      for (long i = 0; i < length; i++) setEntry(number, to + i, reference);
+      boolean isThere = number >= 0 && number < entries.length && to >= 0 && length >= 0;
+      if (!isThere || to + length > entries[number].length) return;
+      Arrays.fill(entries[number], (int) to, (int) (to + length), reference);
     }
 
     void copyFrom(int[] row, int number, long to, long from, long length) {
@@ -2460,7 +2461,8 @@ public final class ModuleEngine {
         int mode = item(plan.elements, entry + Module.MODE);
         if (mode == ACTIVE) {
           in.open(plan, item(plan.elements, entry + Module.PLACE_AT));
-          perform(made, 312, i, item(plan.elements, entry + Module.SPACE), constant(made), 0, item(made.elementSizes, i));
+          int table = item(plan.elements, entry + Module.SPACE);
+          perform(made, 312, i, table, constant(made), 0, item(made.elementSizes, i));
           if (trap != 0) return trap;
         }
         if (mode != PASSIVE) setItem(made.elementSizes, i, 0);
@@ -2695,21 +2697,27 @@ public final class ModuleEngine {
       int op = body.of(i, Body.OP);
       int a = body.of(i, Body.A);
       int height = body.of(i, Body.HEIGHT);
-      arrive(i, height);
+      if (!isReached) {
+        ownUnseen(height);
+      } else if (i < isTarget.length && isTarget[i]) {
+        // Where several ways meet, all operands are in their own slots, and no step is held back.
+        own(height);
+        if (owed > 0) emit(NOTHING, 0);
+      }
+      setItem(places, i, size);
+      own(ownedFor(op, height));
       switch (op) {
         case 1: case 26: owed++; break;
         case 4: condition(a, height); break;
         case 5: case 11:
-          own(height);
           setItem(out, emit(op, 0) + A, a);
           isReached = false;
           break;
         case 12:
-          own(height);
           branch(i, 1, height);
           isReached = false;
           break;
-        case 13: conditionalBranch(i, height); break;
+        case 13: setItem(out, branch(i, 1, height - 1) + SECOND, heldAt(height - 1)); break;
         case 14: branchByTable(i, a, height); return a + 1;
         case 16: case 17: calling(i, op, height); break;
         case 32: hold(height, a); break;
@@ -2720,17 +2728,17 @@ public final class ModuleEngine {
       return 0;
     }
 
-    /** Where several ways meet, all operands are in their own slots, and no step is held back. */
-    private void arrive(int i, int height) {
-      if (!isReached) {
-        for (int p = 0; p < height && p < held.length; p++) held[p] = slots + p;
-        owed = 0;
-        isReached = true;
-      } else if (i < isTarget.length && isTarget[i]) {
-        own(height);
-        if (owed > 0) emit(NOTHING, 0);
-      }
-      setItem(places, i, size);
+    /** How many operands must be in their own slots ahead of what goes on elsewhere. */
+    private static int ownedFor(int op, int height) {
+      if (op == 4 || op == 13 || op == 14 || op == 17) return height - 1;
+      return op == 5 || op == 11 || op == 12 || op == 16 ? height : 0;
+    }
+
+    /** Behind what never goes on, operands are where those that come here from elsewhere put them. */
+    private void ownUnseen(int height) {
+      for (int p = 0; p < height && p < held.length; p++) held[p] = slots + p;
+      owed = 0;
+      isReached = true;
     }
 
     private void hold(int height, int register) {
@@ -2756,10 +2764,8 @@ public final class ModuleEngine {
     }
 
     private void condition(int target, int height) {
-      int value = heldAt(height - 1);
-      own(height - 1);
       int at = emit(4, 1);
-      setItem(out, at + FROM, value);
+      setItem(out, at + FROM, heldAt(height - 1));
       setItem(out, at + A, target);
     }
 
@@ -2773,18 +2779,9 @@ public final class ModuleEngine {
       return at;
     }
 
-    private void conditionalBranch(int i, int height) {
-      int value = heldAt(height - 1);
-      own(height - 1);
-      int at = branch(i, 1, height - 1);
-      setItem(out, at + SECOND, value);
-    }
-
     private void branchByTable(int i, int count, int height) {
-      int value = heldAt(height - 1);
-      own(height - 1);
       int at = emit(14, 1);
-      setItem(out, at + FROM, value);
+      setItem(out, at + FROM, heldAt(height - 1));
       setItem(out, at + A, count);
       for (int k = 0; k <= count; k++) branch(i + 1 + k, 0, height - 1);
       isReached = false;
@@ -2792,12 +2789,10 @@ public final class ModuleEngine {
 
     private void calling(int i, int op, int height) {
       int top = op == 17 ? height - 1 : height;
-      int value = heldAt(height - 1);
-      own(top);
       int first = top - body.of(i, Body.C);
       int at = emit(op, 1);
       setItem(out, at + TO, slots + first);
-      setItem(out, at + FROM, value);
+      setItem(out, at + FROM, heldAt(height - 1));
       setItem(out, at + A, body.of(i, Body.A));
       setItem(out, at + B, body.of(i, Body.B));
       int after = body.of(i + 1, Body.HEIGHT);
@@ -2930,7 +2925,17 @@ public final class ModuleEngine {
     int advance(int n) {
       int done = 0;
       for (int i = 0; i < n && done < n && state == RUNS; i++) {
-        done += frame.isOnRegisters ? stepOnRegisters(n - done) : stepOnStack();
+        if (!frame.isOnRegisters) {
+          stepOnStack();
+          done++;
+        } else {
+          int at = frame.row * Compiler.ROW;
+          int weight = item(frame.code, at + Compiler.WEIGHT) - paid;
+          int most = Math.min(weight, n - done);
+          paid = most < weight ? paid + most : 0;
+          if (most == weight) stepOnRegisters(at);
+          done += most;
+        }
         settle();
       }
       steps += done;
@@ -2940,12 +2945,15 @@ public final class ModuleEngine {
     /** Does what is no step: ends of functions, jumps over an else, moves between registers. */
     private void settle() {
       for (int i = 0; i < MANY && state == RUNS; i++) {
-        if (frame.isFresh) chooseCode();
+        if (frame.isFresh) {
+          if (frame.isOnRegisters && !frame.body.isCompiled) compiler.compile(frame.body);
+          chooseCode();
+        }
         if (frame.isOnRegisters) {
           int at = frame.row * Compiler.ROW;
-          if (paid != 0 || item(frame.code, at + Compiler.WEIGHT) != 0) return;
+          if (item(frame.code, at + Compiler.WEIGHT) != 0) return;
           frame.row++;
-          doOnRegisters(at);
+          goFreely(at);
         } else {
           int op = item(frame.code, frame.row * Body.ROW);
           if (op == 5) frame.row = item(frame.code, frame.row * Body.ROW + Body.A);
@@ -2957,9 +2965,7 @@ public final class ModuleEngine {
 
     private void chooseCode() {
       frame.isFresh = false;
-      if (!frame.isOnRegisters) return;
-      if (!frame.body.isCompiled) compiler.compile(frame.body);
-      frame.isOnRegisters = frame.body.registers.length > 0;
+      frame.isOnRegisters = frame.isOnRegisters && frame.body.registers.length > 0;
       if (frame.isOnRegisters) frame.code = frame.body.registers;
     }
 
@@ -3046,10 +3052,12 @@ public final class ModuleEngine {
       frame.top++;
     }
 
-    private int stepOnStack() {
+    private void stepOnStack() {
       int at = frame.row * Body.ROW;
       int op = item(frame.code, at);
       int a = item(frame.code, at + Body.A);
+      int b = item(frame.code, at + Body.B);
+      int c = item(frame.code, at + Body.C);
       frame.row++;
       switch (op) {
         case 4:
@@ -3061,21 +3069,28 @@ public final class ModuleEngine {
           break;
         case 14: branchOnStack(at + Body.ROW * (1 + (int) Math.min(pop(), a))); break;
         case 16:
-          frame.top -= item(frame.code, at + Body.C);
+          frame.top -= c;
           enter(item(frame.home.functions, a), frame.top);
           break;
         case 17:
           long i = pop();
-          frame.top -= item(frame.code, at + Body.C);
-          callByTable(a, item(frame.code, at + Body.B), i, frame.top);
+          frame.top -= c;
+          callByTable(a, b, i, frame.top);
           break;
         case 32: push(item(values, frame.base + a)); break;
         case 33: setItem(values, frame.base + a, pop()); break;
         case 34: setItem(values, frame.base + a, item(values, frame.top - 1)); break;
-        case 65: push(a & LOW32 | (long) item(frame.code, at + Body.B) << 32); break;
-        default: plainOnStack(at, op, a);
+        case 65: push(a & LOW32 | (long) b << 32); break;
+        default:
+          int takes = c >> 1;
+          frame.top -= takes;
+          long x = takes > 0 ? item(values, frame.top) : 0;
+          long y = takes > 1 ? item(values, frame.top + 1) : 0;
+          long z = takes > 2 ? item(values, frame.top + 2) : 0;
+          long result = store.perform(frame.home, op, a, b, x, y, z);
+          if (store.trap != 0) fail(store.trap);
+          else if ((c & 1) != 0) push(result);
       }
-      return 1;
     }
 
     private void branchOnStack(int at) {
@@ -3086,55 +3101,40 @@ public final class ModuleEngine {
       frame.row = item(frame.code, at + Body.A);
     }
 
-    private void plainOnStack(int at, int op, int a) {
-      int c = item(frame.code, at + Body.C);
-      int takes = c >> 1;
-      frame.top -= takes;
-      long x = takes > 0 ? item(values, frame.top) : 0;
-      long y = takes > 1 ? item(values, frame.top + 1) : 0;
-      long z = takes > 2 ? item(values, frame.top + 2) : 0;
-      long result = store.perform(frame.home, op, a, item(frame.code, at + Body.B), x, y, z);
-      if (store.trap != 0) fail(store.trap);
-      else if ((c & 1) != 0) push(result);
-    }
-
     // The machine over registers.
 
     private long register(int r) {
       return r >= 0 ? item(values, frame.base + r) : item(frame.body.constants, -1 - r);
     }
 
-    /** Does a row, or as many of its steps as there may be. */
-    private int stepOnRegisters(int most) {
-      int at = frame.row * Compiler.ROW;
-      int weight = item(frame.code, at + Compiler.WEIGHT) - paid;
-      if (weight > most) {
-        paid += most;
-        return most;
+    /** Does what has no step of its own, though it may stand for steps that were held back. */
+    private void goFreely(int at) {
+      int op = item(frame.code, at + Compiler.OP);
+      if (op == 11) leave();
+      else if (op == 5) frame.row = item(frame.code, at + Compiler.A);
+      else if (op == Compiler.MOVE) {
+        int to = frame.base + item(frame.code, at + Compiler.TO);
+        setItem(values, to, register(item(frame.code, at + Compiler.FROM)));
       }
-      paid = 0;
-      frame.row++;
-      doOnRegisters(at);
-      return weight;
     }
 
-    private void doOnRegisters(int at) {
+    private void stepOnRegisters(int at) {
       int[] code = frame.code;
       int op = item(code, at + Compiler.OP);
       int a = item(code, at + Compiler.A);
+      int b = item(code, at + Compiler.B);
       int from = item(code, at + Compiler.FROM);
+      int second = item(code, at + Compiler.SECOND);
       int to = item(code, at + Compiler.TO);
+      frame.row++;
       switch (op) {
-        case Compiler.NOTHING: break;
-        case Compiler.MOVE: setItem(values, frame.base + to, register(from)); break;
+        case Compiler.NOTHING: case Compiler.MOVE: case 5: case 11: goFreely(at); break;
         case 4:
           if (register(from) == 0) frame.row = a;
           break;
-        case 5: frame.row = a; break;
-        case 11: leave(); break;
         case 12: branchOnRegisters(at); break;
         case 13:
-          if (register(item(code, at + Compiler.SECOND)) != 0) branchOnRegisters(at);
+          if (register(second) != 0) branchOnRegisters(at);
           break;
         case 14: branchOnRegisters(at + Compiler.ROW * (1 + (int) Math.min(register(from), a))); break;
         case 16:
@@ -3143,9 +3143,13 @@ public final class ModuleEngine {
           break;
         case 17:
           frame.top = frame.base + to;
-          callByTable(a, item(code, at + Compiler.B), register(from), frame.top);
+          callByTable(a, b, register(from), frame.top);
           break;
-        default: plainOnRegisters(at, op, a, to);
+        default:
+          long z = register(item(code, at + Compiler.THIRD));
+          long result = store.perform(frame.home, op, a, b, register(from), register(second), z);
+          if (store.trap != 0) fail(store.trap);
+          else if (to >= 0) setItem(values, frame.base + to, result);
       }
     }
 
@@ -3154,15 +3158,6 @@ public final class ModuleEngine {
       int to = frame.base + item(frame.code, at + Compiler.TO);
       move(values, from, to, item(frame.code, at + Compiler.B));
       frame.row = item(frame.code, at + Compiler.A);
-    }
-
-    private void plainOnRegisters(int at, int op, int a, int to) {
-      long x = register(item(frame.code, at + Compiler.FROM));
-      long y = register(item(frame.code, at + Compiler.SECOND));
-      long z = register(item(frame.code, at + Compiler.THIRD));
-      long result = store.perform(frame.home, op, a, item(frame.code, at + Compiler.B), x, y, z);
-      if (store.trap != 0) fail(store.trap);
-      else if (to >= 0) setItem(values, frame.base + to, result);
     }
   }
 }
