@@ -13,7 +13,6 @@ public final class ModuleEngine {
   private static final int MOST_STEPS = 100000;
 
   private static final int I32 = 127;
-  private static final int I64 = 126;
   private static final int F32 = 125;
   private static final int F64 = 124;
   private static final int FUNCTION = 112;
@@ -2539,7 +2538,7 @@ public final class ModuleEngine {
       if (op == 308) {
         byte[] bytes = home.plan.bytes;
         long from = item(home.plan.data, a * Module.SEGMENT + Module.ITEMS_AT) + y;
-        for (long i = 0; i < z && from + i < bytes.length; i++) {
+        for (long i = 0; i < z && from >= 0 && from + i < bytes.length; i++) {
           memories.setByte(number, x + i, bytes[(int) (from + i)]);
         }
       }
@@ -2875,11 +2874,15 @@ public final class ModuleEngine {
       return state == RUNS || state == ASKS;
     }
 
-    void stop(int why) {
-      state = why;
+    private void clearFrames() {
       depth = 0;
       used = 0;
       paid = 0;
+    }
+
+    void stop(int why) {
+      clearFrames();
+      state = why;
     }
 
     private void fail(int what) {
@@ -2894,7 +2897,8 @@ public final class ModuleEngine {
 
     /** Calls a function from outside. */
     void begin(int function, long[] given, int count) {
-      stop(RUNS);
+      clearFrames();
+      state = RUNS;
       steps = 0;
       int[] shape = store.shapeOf(function);
       for (int i = 0; i < count; i++) setItem(values, i, toldBits(item(shape, 2 + i), item(given, i)));

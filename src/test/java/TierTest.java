@@ -7,6 +7,7 @@ final class TierTest {
     counting();
     inTheMiddle();
     together();
+    withoutRoom();
     Due.end();
   }
 
@@ -92,6 +93,19 @@ final class TierTest {
     Due.is("run", x.run(1000), 6 * 10 + 4 - 27);
     Due.is("value", x.value(0), 720);
     Due.is("state(11)", x.state(11), 1);
+  }
+
+  /** A body that is too great for code for registers is counted, and runs as before. */
+  private static void withoutRoom() {
+    byte[] many = new byte[12000];
+    java.util.Arrays.fill(many, (byte) 1);
+    ModuleEngine x = Write.made(Write.one(Write.types(), Write.types(127), Write.body(many, 65, 5)));
+    x.tier(1);
+    Write.calls(x, 0);
+    Due.is("state(11)", x.state(11), 1);
+    Due.is("run", x.run(7000), 7000);
+    Due.is("run", x.run(7000), 5001);
+    Due.is("value", x.value(0), 5);
   }
 
   /** Random code runs on both machines, in runs of other sizes: all that can be told is the same. */
