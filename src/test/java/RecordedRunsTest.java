@@ -5,8 +5,8 @@ import java.util.HexFormat;
 import java.util.List;
 
 /**
- * All promises: random runs, right modules and spoilt ones, with the answers of another program that
- * was written from the document alone (see NOTES.md). A line is a call and its answer.
+ * All promises: random runs, right modules and spoilt ones, with the answers of a second, plainer
+ * program for the same document (see NOTES.md for what that is worth). A line is a call and its answer.
  */
 final class RecordedRunsTest {
   private static ModuleEngine x;
