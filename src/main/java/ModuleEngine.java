@@ -1612,7 +1612,7 @@ public final class ModuleEngine {
     long apply(int op, long x, long y) {
       trap = 0;
       if (op < 80) return compareWhole(op - 69, (int) x, (int) y, Long.compare(x, y));
-      if (op < 91) return compareWhole(op - 80, x, y, Long.compareUnsigned(x, y));
+      if (op < 91) return compareWhole(op - 80, x, y, compareWithoutSign(x, y));
       if (op < 97) return compareFloating(2, op - 91, x, y);
       if (op < 103) return compareFloating(3, op - 97, x, y);
       if (op < 121) return whole32(op - 103, (int) x, (int) y) & LOW32;
@@ -1621,6 +1621,10 @@ public final class ModuleEngine {
       if (op < 167) return floating(3, op - 153, x, y);
       if (op < 178 || op >= 192) return toWhole(op, x);
       return toFloating(op, x);
+    }
+
+    private static int compareWithoutSign(long x, long y) {
+      return Long.compare(x ^ SIGN64, y ^ SIGN64);
     }
 
     private static long compareWhole(int which, long x, long y, int unsigned) {
@@ -1717,12 +1721,24 @@ public final class ModuleEngine {
         trap = BY_ZERO;
         return 0;
       }
-      if (which == 7) return Long.divideUnsigned(x, y);
-      if (which == 9) return Long.remainderUnsigned(x, y);
+      if (which == 7) return quotientWithoutSign(x, y);
+      if (which == 9) return x - y * quotientWithoutSign(x, y);
       boolean isLeastByMinusOne = x == Long.MIN_VALUE && y == -1;
       if (isLeastByMinusOne && which == 6) trap = NOT_THERE;
       if (isLeastByMinusOne) return 0;
       return which == 6 ? x / y : x % y;
+    }
+
+    /** 0 when y is 0: that has trapped ahead of this. */
+    private static long quotientWithoutSign(long x, long y) {
+      if (y == 0) return 0;
+      // Twice such a y is more than 64 bits hold, so it goes into x once at most.
+      if (y < 0) return x < 0 && x >= y ? 1 : 0;
+      if (x >= 0) return x / y;
+      // Half of x can be divided with sign; twice that quotient is the one wanted, or one less.
+      long quotient = (x >>> 1) / y << 1;
+      long rest = x - quotient * y;
+      return rest < 0 || rest >= y ? quotient + 1 : quotient;
     }
 
     // Floating numbers. The type is 2 or 3; e, f, P and E are those of the document.
@@ -1960,7 +1976,7 @@ public final class ModuleEngine {
         else if (scale > -64) size = significand(type, x) >>> -scale;
       }
       long most = hasSign ? (1L << bits - 1) - (isMinus ? 0 : 1) : isMinus ? 0 : -1L >>> 64 - bits;
-      if (isTooGreat || Long.compareUnsigned(size, most) > 0) {
+      if (isTooGreat || compareWithoutSign(size, most) > 0) {
         if (!keeps) trap = NOT_THERE;
         size = keeps ? most : 0;
       }
